@@ -23,14 +23,10 @@ public final class LadderSprings {
 
     private final Row[] rows = new Row[MOST_ROWS];
     private final Tape tape = new Tape();
-    private final Goer[] kinds = {
-        null, new Climber(), new Draper(), new Curate(), new Fetcher(), new Girl()
-    };
-    private final Lake lake = new Lake(kinds);
-    private final Lake draft = new Lake(kinds);
+    private final Lake lake, draft;
     private final Lake[] acts = new Lake[MOST_ACTS];
     private final Lake[] images = new Lake[IMAGES];
-    private final Foretold foretold = new Foretold(kinds);
+    private final Foretold foretold;
     private final Asked asked = new Asked();
     private int oldestAct, keptActs;
     private int keptImages;
@@ -38,6 +34,10 @@ public final class LadderSprings {
     private int latestFinding;
 
     public LadderSprings() {
+        Goer[] kinds = {null, new Climber(), new Draper(), new Curate(), new Fetcher(), new Girl()};
+        lake = new Lake(kinds);
+        draft = new Lake(kinds);
+        foretold = new Foretold(kinds);
         for (int i = 0; i < MOST_ROWS; i++) {
             rows[i] = new Row();
         }

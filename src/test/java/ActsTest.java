@@ -147,6 +147,18 @@ public final class ActsTest {
             places(x, "hour " + (h + 1), way[h]);
             c.due("up in hour " + (h + 1), x.goer(0, 4), up[h]);
         }
+        LadderSprings over = Checks.of("l4,50;r9;r0;r9;r9;f5,0;");
+        int[] wayOver = {1, 3, 4, 3, 1, 0, 1};
+        for (int h = 0; h < wayOver.length; h++) {
+            over.hours(1);
+            places(over, "over a broken one, hour " + (h + 1), wayOver[h]);
+        }
+        LadderSprings low = Checks.of("l2,50;r0;r9;f5,0;");
+        low.hours(1);
+        places(low, "over the lowest", 2);
+        low.hours(1);
+        places(low, "over the lowest into the boat", 0);
+        c.due("up again", low.goer(0, 4), 1);
         LadderSprings y = Checks.of("l4,50;r9;r0;r0;r9;f5,0;");
         y.hours(1);
         places(y, "below the gap", 1);
@@ -232,7 +244,8 @@ public final class ActsTest {
 
     private static void startsAndHolds() {
         LadderSprings x = Checks.of("l3,30;r20;r20;r20;c5,2;c4,0;");
-        c.due("what it was", x.begin(0, 1), 2);
+        c.due("what it was", x.begin(0, 0), 2);
+        c.due("what it was", x.begin(0, 1), 0);
         x.hours(1);
         places(x, "not yet", 0, 1);
         x.hours(1);

@@ -13,6 +13,7 @@ public final class ForetoldTest {
         mends();
         holds();
         lines();
+        linesAreSoughtAnew();
         heavy();
         whoByHisOwn();
         whoByAnother();
@@ -45,6 +46,7 @@ public final class ForetoldTest {
     private static void aheadAndStrength() {
         LadderSprings x = Checks.of(CROWD);
         c.due("now", x.ahead(0, 0), 0);
+        c.due("now", x.strength(1, 0), 4);
         c.due("behind 1", x.strength(0, 1), 0);
         c.due("behind 1", x.strength(1, 1), 4);
         c.due("behind 2", x.strength(1, 2), 0);
@@ -134,6 +136,7 @@ public final class ForetoldTest {
         c.due("none needed", y.mends(0, 3, 0), 0);
         c.due("none needed", y.mends(0, 3, 1), 0);
         y.hours(3);
+        c.due("he is above", y.holds(0, 1, 0), 0);
         c.due("he is above", y.mends(0, 1, 0), 0);
     }
 
@@ -187,14 +190,35 @@ public final class ForetoldTest {
         order(y, 60, 2, 0, 1);
     }
 
+    private static void linesAreSoughtAnew() {
+        LadderSprings x = Checks.of(CROWD);
+        order(x, 4, 2, 2, 0, 1);
+        x.hold(1, 1);
+        order(x, 4, 2, 2, 0);
+        x.mend(1);
+        order(x, 4, 2, 0, 2);
+        x.undo();
+        order(x, 4, 2, 2, 0);
+        x.image(1);
+        x.hours(4);
+        order(x, 4, 2);
+        x.restore(1);
+        order(x, 4, 2, 2, 0);
+        Checks.tell(x, CROWD);
+        order(x, 4, 2, 2, 0, 1);
+    }
+
     private static void heavy() {
         LadderSprings x = Checks.of("l2,30;r20;r9;k1,9;");
+        c.due("too soon", x.heavy(1), Checks.NONE);
         c.due("too soon", x.heavy(2), Checks.NONE);
         c.due("borne by both", x.heavy(3), 9);
         c.due("once he broke the upper one", x.heavy(4), 19);
         c.due("no more by time", x.heavy(60), 19);
         LadderSprings y = Checks.of("l2,15;r20;r9;k1,9;");
         c.due("the rope", y.heavy(4), 15);
+        LadderSprings least = Checks.of("l2,1;r20;r9;k1,9;");
+        c.due("the least", least.heavy(4), 1);
         LadderSprings z = Checks.of(CROWD);
         c.due("none", z.heavy(60), Checks.NONE);
         LadderSprings six = Checks.of("l2,90;r90;r90;f1,9;f1,9;f1,9;f1,9;f1,9;f1,9;");
@@ -310,6 +334,9 @@ public final class ForetoldTest {
         fraction(nine, 5, 2, 256, 1953125);
         LadderSprings broken = Checks.of("l3,30;r20;r0;r9;c5,0;");
         fraction(broken, 3, 1, 81, 100);
+        LadderSprings behind = Checks.of("l2,30;r20;r20;c5,1;c5,0;");
+        behind.hours(1);
+        fraction(behind, 2, 3, 3, 10);
     }
 
     private static void springs() {
@@ -322,6 +349,8 @@ public final class ForetoldTest {
         c.due("it is taken out below him", x.drawn(1, 1, 1), 1);
         c.due("so he is not above", x.drawn(1, 1, 0), 0);
         c.due("by another draw he is", x.drawn(1, 2, 0), 1);
+        x.takeOut(1);
+        c.due("falls of before do not count", x.drawn(1, 1, 1), 0);
         LadderSprings y = Checks.of("l2,30;r0;r0;c5,0;");
         c.due("X is 67228: mended, though 7 would leave 0", y.drawn(2, 4, 0), 1);
         c.due("not so by 2", y.drawn(2, 2, 0), 0);
@@ -355,6 +384,7 @@ public final class ForetoldTest {
         c.due("holds", x.holds(0, 0, 0), Checks.BAD);
         c.due("holds", x.holds(0, 31, 0), Checks.BAD);
         c.due("holds", x.holds(0, 1, -1), Checks.BAD);
+        c.due("holds", x.holds(0, 1, 2), Checks.BAD);
         c.due("line", x.line(0, 0), Checks.BAD);
         c.due("line", x.line(61, 0), Checks.BAD);
         c.due("line", x.line(1, -2), Checks.BAD);

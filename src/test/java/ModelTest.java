@@ -30,6 +30,9 @@ public final class ModelTest {
         for (test.run = 0; test.run < RUNS; test.run++) {
             test.oneRun();
         }
+        for (test.run = RUNS; test.run < 2 * RUNS; test.run++) {
+            test.runOfLines();
+        }
         test.checks.end();
     }
 
@@ -51,6 +54,48 @@ public final class ModelTest {
             } else {
                 drawCall(name);
             }
+        }
+    }
+
+    /** One line after the other, each of a lake that differs but little from the one before. */
+    private void runOfLines() throws Exception {
+        draws = new Random(104729L * run + 3);
+        x = new LadderSprings();
+        model = new Model();
+        int n = upTo(1, 12);
+        StringBuilder text = new StringBuilder("l3," + upTo(5, 20) + ";");
+        for (int i = 0; i < 3; i++) {
+            text.append("r").append(up(10)).append(";");
+        }
+        for (int i = upTo(2, 4); i > 0; i--) {
+            text.append("cdkfgcdk".charAt(up(8))).append(upTo(1, 9)).append(",").append(up(3)).append(";");
+        }
+        tell(text.toString());
+        for (int i = 0; i < 40; i++) {
+            switch (up(9)) {
+                case 0: call("hours", 1); break;
+                case 1: call("begin", up(goers()), up(5)); break;
+                case 2: call("hold", up(goers()), up(2)); break;
+                case 3: call("mend", up(3)); break;
+                case 4: call("takeOut", up(3)); break;
+                case 5: call("undo"); break;
+                case 6: call("image", up(2)); break;
+                case 7: call("restore", up(2)); break;
+                default: alter(text); tell(text.toString()); break;
+            }
+            for (int k = -1; k <= 4; k++) {
+                call("line", n, k);
+            }
+        }
+    }
+
+    /** Another figure or another sort somewhere, so that the text mostly stays whole. */
+    private void alter(StringBuilder text) {
+        int at = upTo(3, text.length() - 1);
+        if (Character.isDigit(text.charAt(at))) {
+            text.setCharAt(at, (char) ('1' + up(9)));
+        } else if ("cdkfg".indexOf(text.charAt(at)) >= 0) {
+            text.setCharAt(at, "cdkfg".charAt(up(5)));
         }
     }
 
