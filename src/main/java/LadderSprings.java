@@ -592,7 +592,8 @@ public final class LadderSprings {
         /** When it answers false, fault and at tell the fault and its place. */
         boolean readInto(Lake lake) {
             at = 0;
-            scan();
+            length = 0;
+            next();
             return readLaw(lake) && readRungs(lake) && readGoers(lake);
         }
 
@@ -688,25 +689,21 @@ public final class LadderSprings {
             return false;
         }
 
+        /** A byte that is no token stands for itself: nothing that can stand is equal to it. */
         private void next() {
             at += length;
-            scan();
-        }
-
-        /** A byte that is no token stands for itself: nothing that can stand is equal to it. */
-        private void scan() {
             length = 1;
             if (at >= size) {
                 token = END;
                 length = 0;
             } else if (isFigure(bytes[at])) {
-                scanNumber();
+                readFigures();
             } else {
                 token = bytes[at];
             }
         }
 
-        private void scanNumber() {
+        private void readFigures() {
             int end = at;
             value = 0;
             while (end < size && end - at <= MOST_FIGURES && isFigure(bytes[end])) {
