@@ -13,6 +13,7 @@ public final class ForetoldTest {
         mends();
         holds();
         lines();
+        lastOfAllOrders();
         linesAreSoughtAnew();
         heavy();
         whoByHisOwn();
@@ -106,6 +107,14 @@ public final class ForetoldTest {
         c.due("60 are not", later.broken(0), 60);
         c.due("first", later.first(0), 0);
         c.due("first behind", later.first(1), 60);
+        LadderSprings waits = Checks.of("l2,9;r66;r66;c9,0;c9,0;");
+        waits.hours(1);
+        waits.hold(0, 1);
+        c.due("the rope is free once the rung broke below the held one", waits.above(1), 60);
+        LadderSprings longer = Checks.of("l2,9;r67;r67;c9,0;c9,0;");
+        longer.hours(1);
+        longer.hold(0, 1);
+        c.due("61 are too many", longer.above(1), Checks.NONE);
     }
 
     private static void falls() {
@@ -132,6 +141,9 @@ public final class ForetoldTest {
         c.due("a fetcher", x.mends(1, 30, 0), Checks.NONE);
         x.hold(0, 1);
         c.due("held", x.mends(0, 30, 0), Checks.NONE);
+        LadderSprings all = Checks.of("l2,12;r3;r3;c9,1;c9,0;");
+        c.due("all, or the other one is on the rope first", all.mends(1, 3, 0), 2);
+        c.due("all", all.mends(1, 3, 1), 3);
         LadderSprings y = Checks.of(ONE);
         c.due("none needed", y.mends(0, 3, 0), 0);
         c.due("none needed", y.mends(0, 3, 1), 0);
@@ -156,6 +168,9 @@ public final class ForetoldTest {
         LadderSprings y = Checks.of("l2,30;r9;r9;c4,0;c4,0;c4,0;");
         c.due("one of 12", y.holds(2, 3, 0), 1);
         c.due("the least of them", y.holds(2, 3, 1), 1);
+        LadderSprings four = Checks.of("l2,30;r9;r9;c2,0;c2,0;c4,0;c5,0;");
+        c.due("one heavy rather than two light", four.holds(3, 3, 0), 1);
+        c.due("the heavy one", four.holds(3, 3, 1), 4);
         LadderSprings z = Checks.of("l2,30;r9;r9;c5,0;c5,0;c9,0;");
         c.due("both", z.holds(2, 3, 0), 2);
         c.due("both", z.holds(2, 3, 1), 3);
@@ -188,6 +203,12 @@ public final class ForetoldTest {
         order(y, 1, 0);
         y.hours(1);
         order(y, 60, 2, 0, 1);
+    }
+
+    /** Of 720 orders the last is the only one by which five get above, or all that can. */
+    private static void lastOfAllOrders() {
+        order(Checks.of("l5,64;r27;r26;r13;r18;r10;d17,0;d1,0;d11,0;c12,0;g2,0;c10,0;"), 9, 5, 5, 4, 3, 2, 1, 0);
+        order(Checks.of("l3,31;r5;r13;r10;k16,0;c4,0;c12,0;d4,0;d21,0;c13,0;"), 14, 5, 5, 4, 3, 2, 1, 0);
     }
 
     private static void linesAreSoughtAnew() {

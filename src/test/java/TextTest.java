@@ -121,6 +121,7 @@ public final class TextTest {
         fault(LAW + RUNGS + GOERS + ";", 41, 1);
         fault("l2,1;r\u00b2;", 6, 1);
         fault("l2,1;r" + (char) 0 + ";", 6, 1);
+        fault(LAW + RUNGS + "c1,0;" + (char) 0, 16, 1);
     }
 
     private static void aFaultLeavesAll() {
