@@ -284,7 +284,7 @@ public final class LadderSprings {
         if (when == NONE || what == 1) {
             return when;
         }
-        return Integer.numberOfTrailingZeros(foretold.trial.brokenRungs() & sound);
+        return lowestOf(foretold.trial.brokenRungs() & sound);
     }
 
     public int falls(int n) {
@@ -491,6 +491,10 @@ public final class LadderSprings {
             return NULL;
         }
         return one.hasSpan(i, n) ? 0 : PLACE;
+    }
+
+    private static int lowestOf(int bits) {
+        return Integer.bitCount((bits & -bits) - 1);
     }
 
     private static int countOrSet(int bits, int what) {
