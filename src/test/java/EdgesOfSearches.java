@@ -336,6 +336,48 @@ final class EdgesOfSearches {
             undo = 2
             line 1 -1 = 0
             """);
+        e.edge(26, "by the LAKE that stands now: every STRENGTH, every START is another", """
+            tell l2,10;r90;r90;c5,0; = 1
+            line 2 -1 = 0
+            tell l2,10;r0;r89;c5,0; = 1
+            line 2 -1 = 1
+            tell l2,10;r90;r90;c5,0; = 1
+            hours 1 = 0
+            line 2 -1 = 1
+            begin 0 30 = 0
+            line 2 -1 = 0
+            """);
+        e.edge(26, "by the LAKE that stands now: a PLACE alone is another", """
+            tell l2,9;r9;r9;g1,0; = 1
+            image 0 = 1
+            hours 1 = 0
+            line 1 0 = NONE
+            restore 0 = 1
+            hold 0 1 = 1
+            hours 1 = 0
+            hold 0 0 = 0
+            line 1 0 = 0
+            """);
+        e.edge(26, "by the LAKE that stands now: the way UP alone is another", """
+            tell l3,9;r90;r90;r90;f9,0;c9,0; = 2
+            image 0 = 1
+            hours 2 = 0
+            hold 0 1 = 1
+            hours 2 = 0
+            hold 0 0 = 0
+            mend 0 = 89
+            mend 1 = 87
+            mend 2 = 90
+            goer 0 0 = 2
+            line 5 -1 = 0
+            restore 0 = 1
+            hours 4 = 0
+            mend 0 = 89
+            mend 1 = 88
+            mend 2 = 89
+            goer 0 0 = 2
+            line 5 -1 = 1
+            """);
         e.edge(26, "(nothing changes)", CROWD + """
             line 4 -1 = 2
             line 4 0 = 2
