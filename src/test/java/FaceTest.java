@@ -26,6 +26,7 @@ public final class FaceTest {
         methods();
         members();
         words();
+        insides();
         c.end();
     }
 
@@ -88,5 +89,30 @@ public final class FaceTest {
             longest = Math.max(longest, line.length());
         }
         c.holds("lines can be read", longest <= 120);
+    }
+
+    /** Rules 1, 11 and 12: methods inside have names of their own, are short, and only what makes an object makes more. */
+    private static void insides() throws Exception {
+        Set<String> face = new TreeSet<>();
+        for (Method m : LadderSprings.class.getDeclaredMethods()) {
+            face.add(m.getName());
+            c.holds(m + " takes seven at most", m.getParameterCount() <= 7);
+        }
+        for (Class<?> one : LadderSprings.class.getDeclaredClasses()) {
+            for (Method m : one.getDeclaredMethods()) {
+                c.holds(m + " has a name of its own", !face.contains(m.getName()));
+                c.holds(m + " takes seven at most", m.getParameterCount() <= 7);
+            }
+        }
+        String text = Files.readString(Path.of("src/main/java/LadderSprings.java"));
+        Matcher body = Pattern.compile("(?m)^( {4,8})(?:\\w+ )+(\\w+)\\([^;{]*\\) \\{\n(?s:.*?)^\\1\\}$").matcher(text);
+        int methods = 0;
+        while (body.find()) {
+            methods++;
+            c.holds(body.group(2) + " is short", body.group().lines().count() <= 60);
+            c.holds(body.group(2) + " makes no object", !Pattern.compile("\\bnew\\b").matcher(body.group()).find()
+                || body.group(2).equals("LadderSprings") || body.group(2).equals("Foretold"));
+        }
+        c.holds("the methods were found in the text", methods >= 130);
     }
 }
